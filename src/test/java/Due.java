@@ -57,7 +57,7 @@ final class Due {
         }
     }
 
-    /** Everything that can be asked of a furnace. */
+    /** What can be asked of a furnace, in few calls: an object is good for 512. */
     static List<Integer> asked(Burnerline x) {
         List<Integer> all = new ArrayList<>();
         all.add(x.ticks());
@@ -78,12 +78,8 @@ final class Due {
             all.add(x.stateOf(back));
             all.add(x.reasonOf(back));
         }
-        for (int ticks = 1; ticks <= 3; ticks++) {
-            for (int state = 0; state <= 6; state++) {
-                all.add(x.couldBe(state, ticks) ? 1 : 0);
-            }
-            all.add(x.reasonsAhead(ticks));
-        }
+        all.add(x.reasonsAhead(1));
+        all.add(x.reasonsAhead(3));
         all.add(x.toPilot());
         return all;
     }
