@@ -581,7 +581,8 @@ public final class Burnerline {
             reason = newReason;
             time = 0;
             purged = 0;
-            if (!isMainOpen()) {
+            // Told here once more, not asked: the calls of a tick go deep enough as it is.
+            if (newState != MAIN && newState != RUN) {
                 fuel = 0;
             }
             return true;

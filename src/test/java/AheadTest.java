@@ -1,4 +1,4 @@
-/** Promises 25 to 27: what could happen. */
+/** Promises 25 and 26: what could happen in one to three ticks. */
 public final class AheadTest {
     private static final Due due = new Due();
 
@@ -6,14 +6,17 @@ public final class AheadTest {
         fromOff();
         fromPurge();
         fromPilot();
+        behindOneOfTheTicks();
         fromMain();
         fromRun();
         fromAfterPurge();
         fromLockout();
         slowEyes();
+        timesThatAreUp();
+        eyesThatNeedTicks();
+        statesInARow();
+        whateverTheSignals();
         wrongInputs();
-        toPilot();
-        askingChangesNothing();
         due.end();
     }
 
@@ -72,6 +75,16 @@ public final class AheadTest {
         ahead("from an old pilot", x, 3, set(2, 3, 4, 5, 6), set(1, 2, 4, 6));
     }
 
+    /** Pilot and main last a tick each: what could only be behind the first tick counts later too. */
+    private static void behindOneOfTheTicks() {
+        Burnerline x = Due.quick();
+        x.setTimes(60, 1, 1, 15);
+        Due.lead(x, 2);
+        ahead("from a short pilot", x, 1, set(3, 5, 6), set(1, 2, 4));
+        ahead("from a short pilot", x, 2, set(3, 4, 5, 6), set(1, 2, 4, 5));
+        ahead("from a short pilot", x, 3, set(3, 4, 5, 6), set(1, 2, 4, 5, 6));
+    }
+
     private static void fromMain() {
         Burnerline x = Due.quickIn(3);
         ahead("from main", x, 1, set(3, 4, 5, 6), set(1, 2));
@@ -126,94 +139,124 @@ public final class AheadTest {
         ahead("behind a row that is over", x, 3, set(0, 1), 0);
     }
 
+    /** The reason is found from so many ticks on, and the state too if it is not 6, and not before. */
+    private static void soonest(String where, Burnerline x, int ticks, int reason) {
+        for (int n = 1; n <= 3; n++) {
+            boolean found = (x.reasonsAhead(n) >> reason & 1) == 1;
+            due.is("reason " + reason + " in " + n + " " + where, found, n >= ticks);
+        }
+    }
+
+    private static void soonestState(String where, Burnerline x, int ticks, int state) {
+        for (int n = 1; n <= 3; n++) {
+            due.is("state " + state + " in " + n + " " + where, x.couldBe(state, n), n >= ticks);
+        }
+    }
+
+    /** Each time that is up in 1, 2, 3 and 4 ticks. */
+    private static void timesThatAreUp() {
+        for (int left = 1; left <= 4; left++) {
+            String where = "with " + left + " left";
+            Burnerline purge = Due.quickIn(1);
+            purge.signal(Due.AIR, false);
+            purge.poll(60 - left);
+            soonest("of the purge " + where, purge, left, 7);
+            Burnerline pilot = Due.quickIn(2);
+            pilot.poll(10 - left);
+            soonest("of the pilot " + where, pilot, left, 4);
+            Burnerline main = Due.quickIn(3);
+            main.poll(5 - left);
+            soonest("of main " + where, main, left, 5);
+            Burnerline check = Due.quickIn(4);
+            check.poll(10 - left);
+            soonest("of a run " + where, check, left, 8);
+            Burnerline after = Due.quickIn(5);
+            after.poll(15 - left);
+            soonest("of the after-purge " + where, after, left, 3);
+            soonestState("of the after-purge " + where, after, left, 0);
+            soonestState("of the after-purge " + where, after, left, 6);
+            soonestState("of the after-purge " + where, after, left + 1, 1);
+        }
+    }
+
+    /** Eyes that need 1 to 5 ticks, with no row and with one. */
+    private static void eyesThatNeedTicks() {
+        for (int need = 1; need <= 5; need++) {
+            for (int row = 0; row < need; row++) {
+                String where = "with a row of " + row + " of " + need;
+                int left = need - row;
+                Burnerline off = new Burnerline();
+                off.setEyes(need, 1, 5);
+                off.signal(Due.MAIN_EYE, true);
+                Due.pass(off, row);
+                soonest("of off " + where, off, left, 3);
+                Burnerline run = Due.quick();
+                run.setEyes(1, need, 100);
+                Due.lead(run, 4);
+                run.signal(Due.MAIN_EYE, false);
+                Due.pass(run, row);
+                soonest("of a run " + where, run, left, 6);
+                Burnerline pilot = new Burnerline();
+                pilot.setEyes(need, 1, 5);
+                pilot.setFurnace(1, 50, 50);
+                Due.lead(pilot, 2);
+                pilot.signal(Due.PILOT_EYE, true);
+                Due.pass(pilot, row);
+                soonestState("of a pilot " + where, pilot, left, 3);
+                soonestState("of a pilot " + where, pilot, Math.max(left + 1, need), 4);
+            }
+        }
+    }
+
+    /** From one state to the next: a tick for each, and more where the purge takes more. */
+    private static void statesInARow() {
+        int[][] soonest = {
+            {1, 1, 3, 4, 5, 4, 1}, {1, 1, 2, 3, 4, 3, 1}, {9, 9, 1, 1, 2, 1, 1}, {9, 9, 9, 1, 1, 1, 1},
+            {9, 9, 9, 9, 1, 1, 1}, {9, 9, 9, 9, 9, 1, 9}, {9, 9, 9, 9, 9, 9, 1}};
+        for (int from = 0; from <= 6; from++) {
+            for (int to = 0; to <= 6; to++) {
+                soonestState("from " + from, Due.quickIn(from), soonest[from][to], to);
+            }
+        }
+        Burnerline late = Due.quickIn(1);
+        late.poll(1);
+        soonestState("from a purge that is nearly done", late, 1, 2);
+        soonestState("from a purge that is nearly done", late, 2, 3);
+        soonestState("from a purge that is nearly done", late, 3, 4);
+    }
+
+    /** What the signals are now does not matter, as they could all be otherwise at the next tick. */
+    private static void whateverTheSignals() {
+        for (int state = 0; state <= 6; state++) {
+            for (int told = 0; told < 64; told++) {
+                Burnerline x = Due.quickIn(state);
+                Burnerline y = Due.quickIn(state);
+                for (int signal = 0; signal < 6; signal++) {
+                    x.signal(signal, (told >> signal & 1) == 1);
+                }
+                String where = "from " + state + " with signals " + told;
+                due.is("reasons " + where, x.reasonsAhead(2), y.reasonsAhead(2));
+                for (int could = 0; could <= 6; could++) {
+                    due.is("couldBe " + could + " " + where, x.couldBe(could, 2), y.couldBe(could, 2));
+                }
+            }
+        }
+    }
+
     private static void wrongInputs() {
         for (int state : new int[] {-1, 7, 32, Integer.MIN_VALUE, Integer.MAX_VALUE}) {
             Burnerline x = Due.quickIn(1);
             due.refused("couldBe(" + state + ", 1)", IllegalArgumentException.class, x, () -> x.couldBe(state, 1));
+            due.refused("couldBe(" + state + ", 3)", IllegalArgumentException.class, x, () -> x.couldBe(state, 3));
             due.refused("couldBe(" + state + ", 0)", IllegalArgumentException.class, x, () -> x.couldBe(state, 0));
         }
-        for (int s : new int[] {0, 6}) {
+        for (int s = 0; s <= 6; s++) {
             for (int ticks : new int[] {0, 4, -1, Integer.MIN_VALUE, Integer.MAX_VALUE}) {
                 Burnerline x = Due.quickIn(s);
                 due.refused("couldBe(1, " + ticks + ")", IllegalArgumentException.class, x, () -> x.couldBe(1, ticks));
                 due.refused("reasonsAhead(" + ticks + ")", IllegalArgumentException.class, x,
                         () -> x.reasonsAhead(ticks));
             }
-        }
-    }
-
-    private static void toPilot() {
-        Burnerline x = new Burnerline();
-        due.is("toPilot of a new one, whatever its signals", x.toPilot(), 13);
-        int[] quick = {3, 2, 0, 0, -1, 18, -1};
-        for (int state = 0; state <= 6; state++) {
-            due.is("toPilot from " + state, Due.quickIn(state).toPilot(), quick[state]);
-        }
-        afterPurgeToPilot();
-        farPilot();
-        purgeToPilot();
-    }
-
-    private static void afterPurgeToPilot() {
-        Burnerline x = new Burnerline();
-        x.setEyes(1, 5, 5);
-        x.setFurnace(1, 50, 50);
-        Due.lead(x, 5);
-        // 15 of the after-purge, 1 of off that lets the air down to 10, and 2 until it is at 70 or more.
-        due.is("toPilot from the after-purge", x.toPilot(), 18);
-        x.poll(10);
-        due.is("toPilot when the flame is gone just in time", x.toPilot(), 8);
-        x.poll(1);
-        due.is("toPilot when the flame is seen too long", x.toPilot(), -1);
-    }
-
-    private static void farPilot() {
-        Burnerline x = new Burnerline();
-        x.setTimes(200, 1, 1, 60);
-        x.setFurnace(500, 1, 1);
-        // Off, 69 ticks too low, 70 + .. + 100 make 2635.
-        due.is("toPilot of a slow furnace", x.toPilot(), 95);
-        Due.lead(x, 1);
-        due.is("toPilot of a slow furnace that purges", x.toPilot(), 94);
-        x.setRate(20);
-        Burnerline never = new Burnerline();
-        never.setTimes(94, 1, 1, 60);
-        never.setFurnace(500, 1, 1);
-        due.is("toPilot in the last tick of the purge", never.toPilot(), 95);
-        never.setTimes(93, 1, 1, 60);
-        due.is("toPilot of too short a purge", never.toPilot(), -1);
-    }
-
-    private static void purgeToPilot() {
-        Burnerline x = new Burnerline();
-        Due.lead(x, 1);
-        x.poll(6);
-        due.is("toPilot in a purge", x.toPilot(), 6);
-        x.signal(Due.AIR, false);
-        due.is("toPilot, whatever flows now", x.toPilot(), 6);
-        x.poll(1);
-        due.is("toPilot when the purge begins anew", x.toPilot(), 8);
-        x.signal(Due.MAIN_EYE, true);
-        x.poll(1);
-        due.is("toPilot with light that is not seen", x.toPilot(), 8);
-        x.signal(Due.HEAT, false);
-        x.poll(1);
-        due.is("toPilot with a flame in off", x.toPilot(), -1);
-    }
-
-    private static void askingChangesNothing() {
-        for (int state = 0; state <= 6; state++) {
-            Burnerline asked = Due.quickIn(state);
-            for (int ticks = 1; ticks <= 3; ticks++) {
-                asked.couldBe(6, ticks);
-                asked.reasonsAhead(ticks);
-                asked.toPilot();
-            }
-            due.same("asking in " + state + " leaves", Due.asked(asked), Due.asked(Due.quickIn(state)));
-            Burnerline left = Due.quickIn(state);
-            asked.poll(30);
-            left.poll(30);
-            due.same("30 ticks behind asking in " + state, Due.asked(asked), Due.asked(left));
         }
     }
 }

@@ -6,8 +6,15 @@ public final class ClockTest {
         polls();
         wrongPolls();
         resets();
-        resetsThatAreRefused();
+        onlyInALockout();
+        notTooSoon();
+        notWithAFlame();
+        whatAResetLeaves();
         resetsInTheWindow();
+        refusedResetsAreNotCounted();
+        resetsInAHurry();
+        resetsThatCount();
+        aWholeLife();
         due.end();
     }
 
@@ -89,7 +96,7 @@ public final class ClockTest {
         return x;
     }
 
-    private static void resetsThatAreRefused() {
+    private static void onlyInALockout() {
         for (int state = 0; state <= 5; state++) {
             Burnerline x = Due.quickIn(state);
             refused("reset in state " + state, x);
@@ -98,24 +105,74 @@ public final class ClockTest {
                 refused("reset later from state " + state, x);
             }
         }
-        Burnerline young = lockedOut(4);
-        refused("reset at time 4", young);
-        young.poll(1);
-        due.is("reset at time 5", young.reset(), 1);
-        refused("reset of an off furnace", young);
-        Burnerline late = lockedOut(200);
-        due.is("reset at time 200", late.reset(), 1);
-        for (int eye : new int[] {Due.PILOT_EYE, Due.MAIN_EYE}) {
+        Burnerline off = lockedOut(5);
+        due.is("reset of a lockout", off.reset(), 1);
+        refused("reset of an off furnace", off);
+        off.signal(Due.HEAT, false);
+        off.poll(5);
+        refused("reset of a furnace that is off for long", off);
+    }
+
+    private static void notTooSoon() {
+        for (int time = 0; time <= 4; time++) {
+            Burnerline young = Due.quickIn(6);
+            Due.pass(young, time);
+            refused("reset at time " + time, young);
+            young.poll(5 - time);
+            due.is("time of the lockout", young.time(), 5);
+            due.is("reset at time 5", young.reset(), 1);
+        }
+        due.is("reset at time 6", lockedOut(6).reset(), 1);
+        due.is("reset at time 200", lockedOut(200).reset(), 1);
+    }
+
+    private static void notWithAFlame() {
+        for (int eye : Due.EYES) {
             Burnerline lit = lockedOut(5);
             lit.signal(eye, true);
-            due.is("light alone is no flame", lit.sees(eye == Due.MAIN_EYE), false);
             lit.poll(1);
             refused("reset with a flame at " + eye, lit);
             lit.signal(eye, false);
             refused("reset while the eye still sees", lit);
             lit.poll(1);
             due.is("reset behind the flame", lit.reset(), 1);
+            Burnerline light = lockedOut(5);
+            light.signal(eye, true);
+            due.is("light alone is no flame", light.sees(eye == Due.MAIN_EYE), false);
+            due.is("reset with light that is not seen", light.reset(), 1);
+            Burnerline young = lockedOut(3);
+            young.signal(eye, true);
+            young.poll(1);
+            refused("reset at time 4 with a flame at " + eye, young);
+            young.signal(eye, false);
+            young.poll(1);
+            due.is("reset at time 5 as the flame goes", young.reset(), 1);
         }
+        Burnerline both = lockedOut(5);
+        Due.set(both, true, Due.EYES);
+        both.poll(1);
+        refused("reset with a flame at both eyes", both);
+    }
+
+    /** Of the state it changes what begins with a state, and nothing else. */
+    private static void whatAResetLeaves() {
+        Burnerline x = Due.quickIn(2);
+        x.poll(10);
+        due.is("state of a pilot that is not lit", x.state(), 6);
+        x.poll(5);
+        due.is("reset", x.reset(), 1);
+        due.is("ticks behind a reset", x.ticks(), 18);
+        due.is("air behind a reset", x.air(), 60);
+        due.is("fuel behind a reset", x.fuel(), 0);
+        due.is("purged behind a reset", x.purged(), 0);
+        due.is("unlit behind a reset", x.unlit(), 0);
+        due.is("longestUnlit behind a reset", x.longestUnlit(), 10);
+        for (int signal = 0; signal < 6; signal++) {
+            boolean on = signal == Due.HEAT || signal == Due.AIR || signal == Due.PRESSURE || signal == Due.CHECK;
+            due.is("signal " + signal + " behind a reset", x.signal(signal, on), on);
+        }
+        due.is("rate behind a reset", x.setRate(50), 50);
+        due.is("toPilot behind a reset", x.toPilot(), 3);
     }
 
     private static void refused(String call, Burnerline x) {
@@ -147,6 +204,95 @@ public final class ClockTest {
         due.is("tick of the last reset", x.tickOf(0), 509);
     }
 
+    /** However often it is refused, a reset that is refused is none. */
+    private static void refusedResetsAreNotCounted() {
+        Burnerline x = Due.quick();
+        resetAt(x, 10, 1);
+        lockOutAndPollTo(x, 15);
+        for (int i = 0; i < 5; i++) {
+            int answer = 0;
+            try {
+                answer = x.reset();
+            } catch (IllegalStateException e) {
+                answer = -1;
+            }
+            due.is("reset too soon", answer, -1);
+        }
+        x.poll(1);
+        due.is("a reset behind some that were refused", x.reset(), 2);
+        resetAt(x, 30, 3);
+        lockOutAndPollTo(x, 40);
+        refused("a fourth reset", x);
+        x.poll(69);
+        refused("a fourth reset, 99 ticks behind the first", x);
+        x.poll(1);
+        due.is("a fourth reset, 100 ticks behind the first", x.reset(), 3);
+    }
+
+    /** As soon as can be: a tick to the lockout, and five in it. */
+    private static void resetsInAHurry() {
+        Burnerline x = Due.quick();
+        resetAt(x, 6, 1);
+        resetAt(x, 12, 2);
+        resetAt(x, 18, 3);
+        lockOutAndPollTo(x, 24);
+        refused("a fourth reset in a hurry", x);
+        x.poll(81);
+        due.is("ticks", x.ticks(), 105);
+        refused("a fourth reset 99 ticks behind the first", x);
+        x.poll(1);
+        due.is("a fourth reset 100 ticks behind the first", x.reset(), 3);
+        lockOutAndPollTo(x, 112);
+        due.is("a fifth reset 100 ticks behind the second", x.reset(), 3);
+        lockOutAndPollTo(x, 118);
+        due.is("a sixth reset 100 ticks behind the third", x.reset(), 3);
+        lockOutAndPollTo(x, 205);
+        refused("a seventh reset 99 ticks behind the fourth", x);
+    }
+
+    /** What is answered when one, two and three of the resets before are still to be counted. */
+    private static void resetsThatCount() {
+        int[][] ticks = {{99, 2}, {100, 1}, {101, 1}, {1000, 1}, {6, 2}};
+        for (int[] later : ticks) {
+            Burnerline x = Due.quick();
+            resetAt(x, 10, 1);
+            resetAt(x, 10 + later[0], later[1]);
+        }
+        Burnerline both = Due.quick();
+        resetAt(both, 10, 1);
+        resetAt(both, 60, 2);
+        resetAt(both, 109, 3);
+        Burnerline second = Due.quick();
+        resetAt(second, 10, 1);
+        resetAt(second, 60, 2);
+        resetAt(second, 110, 2);
+        Burnerline none = Due.quick();
+        resetAt(none, 10, 1);
+        resetAt(none, 60, 2);
+        resetAt(none, 160, 1);
+    }
+
+    /** An object is good for 512 calls, and the last one is as good as the first. */
+    private static void aWholeLife() {
+        Burnerline still = new Burnerline();
+        for (int call = 1; call <= 511; call++) {
+            due.is("poll at call " + call, still.poll(200), 0);
+        }
+        due.is("ticks at call 512", still.ticks(), 102200);
+        Burnerline busy = new Burnerline();
+        for (int call = 2; call <= 510; call += 2) {
+            busy.signal(Due.HEAT, call % 4 == 2);
+            due.is("poll at call " + call, busy.poll(1), 1);
+        }
+        due.is("changes at call 511", busy.changes(), 255);
+        due.is("tickOf(99) at call 512", busy.tickOf(99), 156);
+        Burnerline run = Due.quickIn(4);
+        for (int call = 10; call <= 500; call++) {
+            due.is("poll at call " + call, run.poll(200), 0);
+        }
+        due.is("time of a run as long as can be", run.time(), 491 * 200);
+    }
+
     private static void resetAt(Burnerline x, int tick, int answer) {
         lockOutAndPollTo(x, tick);
         due.is("reset at " + tick, x.reset(), answer);
@@ -157,8 +303,6 @@ public final class ClockTest {
         x.poll(1);
         due.is("state before a reset", x.state(), 6);
         x.signal(Due.PILOT_EYE, false);
-        while (x.ticks() < tick) {
-            x.poll(Math.min(200, tick - x.ticks()));
-        }
+        Due.pass(x, tick - x.ticks());
     }
 }

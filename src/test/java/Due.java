@@ -9,6 +9,10 @@ final class Due {
     static final int PILOT_EYE = 3;
     static final int MAIN_EYE = 4;
     static final int CHECK = 5;
+    static final int[] EYES = {PILOT_EYE, MAIN_EYE};
+
+    /** An object is good for 512 calls: of many records only so many at each end are asked. */
+    private static final int ASKED_AT_EACH_END = 5;
 
     private int wrong;
     private int asked;
@@ -37,9 +41,15 @@ final class Due {
         }
     }
 
+    void state(String where, Burnerline x, int state, int reason, int time) {
+        is("state " + where, x.state(), state);
+        is("reason " + where, x.reason(), reason);
+        is("time " + where, x.time(), time);
+    }
+
     /** The call throws exactly this exception, and changes nothing that can be asked. */
     void refused(String call, Class<?> kind, Burnerline x, Call made) {
-        List<Integer> before = asked(x);
+        List<Integer> before = told(x);
         Object thrown = "nothing";
         try {
             made.make();
@@ -47,7 +57,7 @@ final class Due {
             thrown = t.getClass();
         }
         same(call + " throws", thrown, kind);
-        same(call + " leaves", asked(x), before);
+        same(call + " leaves", told(x), before);
     }
 
     void end() {
@@ -57,7 +67,7 @@ final class Due {
         }
     }
 
-    /** What can be asked of a furnace, in few calls: an object is good for 512. */
+    /** What can be asked of a furnace. */
     static List<Integer> asked(Burnerline x) {
         List<Integer> all = new ArrayList<>();
         all.add(x.ticks());
@@ -72,16 +82,46 @@ final class Due {
         all.add(x.unlit());
         all.add(x.longestUnlit());
         all.add(x.changes());
-        all.add(x.records());
-        for (int back = 0; back < x.records(); back++) {
-            all.add(x.tickOf(back));
-            all.add(x.stateOf(back));
-            all.add(x.reasonOf(back));
+        int kept = x.records();
+        all.add(kept);
+        for (int back = 0; back < kept; back++) {
+            if (back < ASKED_AT_EACH_END || back >= kept - ASKED_AT_EACH_END) {
+                all.add(x.tickOf(back));
+                all.add(x.stateOf(back));
+                all.add(x.reasonOf(back));
+            }
         }
         all.add(x.reasonsAhead(1));
         all.add(x.reasonsAhead(3));
         all.add(x.toPilot());
         return all;
+    }
+
+    /** What can be asked, and the signals and the rate, which answer when they are told anew. */
+    private static List<Integer> told(Burnerline x) {
+        List<Integer> all = asked(x);
+        for (int signal = 0; signal < 6; signal++) {
+            boolean on = x.signal(signal, false);
+            x.signal(signal, on);
+            all.add(on ? 1 : 0);
+        }
+        int rate = x.setRate(50);
+        x.setRate(rate);
+        all.add(rate);
+        return all;
+    }
+
+    static void set(Burnerline x, boolean on, int... signals) {
+        for (int signal : signals) {
+            x.signal(signal, on);
+        }
+    }
+
+    /** Polls however many ticks it takes, none too. */
+    static void pass(Burnerline x, int ticks) {
+        for (int left = ticks; left > 0; left -= 200) {
+            x.poll(Math.min(200, left));
+        }
     }
 
     /** A furnace that purges in two ticks and whose eyes believe at once. */
@@ -90,12 +130,6 @@ final class Due {
         x.setEyes(1, 1, 5);
         x.setFurnace(1, 50, 50);
         return x;
-    }
-
-    static void set(Burnerline x, boolean on, int... signals) {
-        for (int signal : signals) {
-            x.signal(signal, on);
-        }
     }
 
     /** Leads a quick furnace, off and cold, to a state from 0 to 6, the time in it being 0. */

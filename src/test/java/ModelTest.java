@@ -1,7 +1,8 @@
 /** All promises: long runs of calls, each answer held against the model's. The same runs every time. */
 public final class ModelTest {
     private static final int RUNS = 1500;
-    private static final int CALLS = 512;
+    /** An object is good for 512 calls, and a step makes ten at the most. */
+    private static final int CALLS = 512 - 10;
     private static final int DEEP_WALKS = 150;
     private static final int REFUSED = Integer.MIN_VALUE;
 

@@ -1,4 +1,7 @@
-/** Promises 1 to 6: a new object, signals and settings. */
+/**
+ * Promises 1 to 6: a new object, signals, and what settings do. RangesTest tells which are taken and
+ * which refused, EyesTest how the eyes keep to theirs, PositionsTest how the air and the fuel do.
+ */
 public final class SettingsTest {
     private static final int NEVER = -1;
 
@@ -8,12 +11,13 @@ public final class SettingsTest {
         newObject();
         signal();
         rate();
+        rateAtItsEnds();
         times();
-        eyes();
+        ticksBetweenChecks();
         furnace();
-        onlyWhenOff();
         firstSteps();
         firstVolume();
+        firstVolumeToTheLast();
         firstCheck();
         due.end();
     }
@@ -65,8 +69,8 @@ public final class SettingsTest {
 
     private static void rate() {
         Burnerline x = new Burnerline();
-        due.is("setRate(20)", x.setRate(20), 50);
-        due.is("setRate(100)", x.setRate(100), 20);
+        due.is("setRate(20), the least", x.setRate(20), 50);
+        due.is("setRate(100), the greatest", x.setRate(100), 20);
         due.is("setRate(73)", x.setRate(73), 100);
         for (int wrong : new int[] {19, 101, 0, -1, Integer.MIN_VALUE, Integer.MAX_VALUE}) {
             Burnerline y = new Burnerline();
@@ -80,17 +84,18 @@ public final class SettingsTest {
         }
     }
 
-    private static void times() {
-        int[] greatest = {200, 30, 30, 60};
-        for (int i = 0; i < 4; i++) {
-            for (int wrong : new int[] {0, -1, greatest[i] + 1, Integer.MIN_VALUE, Integer.MAX_VALUE}) {
-                Burnerline x = new Burnerline();
-                int[] t = {1, 1, 1, 1};
-                t[i] = wrong;
-                due.refused("setTimes with " + wrong + " at " + i, IllegalArgumentException.class, x,
-                        () -> x.setTimes(t[0], t[1], t[2], t[3]));
-            }
+    /** A run keeps its air and its fuel at the least rate, and at the greatest. */
+    private static void rateAtItsEnds() {
+        for (int rate : new int[] {20, 100}) {
+            Burnerline x = Due.quickIn(4);
+            x.setRate(rate);
+            x.poll(20);
+            due.is("air at the rate " + rate, x.air(), rate);
+            due.is("fuel at the rate " + rate, x.fuel(), rate);
         }
+    }
+
+    private static void times() {
         longestPurge(60, new Burnerline());
         Burnerline x = new Burnerline();
         x.setTimes(200, 30, 30, 60);
@@ -107,22 +112,13 @@ public final class SettingsTest {
         for (int after : new int[] {1, 15, 60}) {
             afterPurge(after);
         }
-        wrongTimesAreNotKept();
-    }
-
-    private static void wrongTimesAreNotKept() {
-        Burnerline x = new Burnerline();
-        due.refused("setTimes(7, 7, 7, 61)", IllegalArgumentException.class, x, () -> x.setTimes(7, 7, 7, 61));
-        longestPurge(60, x);
     }
 
     /** No air flows, so that the purge never ends. */
     private static void longestPurge(int purge, Burnerline x) {
         x.signal(Due.HEAT, true);
         x.poll(1);
-        if (purge > 1) {
-            x.poll(purge - 1);
-        }
+        Due.pass(x, purge - 1);
         due.is("state before the longest purge of " + purge, x.state(), 1);
         x.poll(1);
         due.is("state at the longest purge of " + purge, x.state(), 6);
@@ -135,9 +131,7 @@ public final class SettingsTest {
             x.setTimes(60, pilot, 5, 15);
         }
         Due.lead(x, 2);
-        if (pilot > 1) {
-            x.poll(pilot - 1);
-        }
+        Due.pass(x, pilot - 1);
         due.is("state before the longest pilot of " + pilot, x.state(), 2);
         x.poll(1);
         due.is("reason at the longest pilot of " + pilot, x.reason(), 4);
@@ -149,9 +143,7 @@ public final class SettingsTest {
             x.setTimes(60, 10, main, 15);
         }
         Due.lead(x, 3);
-        if (main > 1) {
-            x.poll(main - 1);
-        }
+        Due.pass(x, main - 1);
         due.is("state before the longest main of " + main, x.state(), 3);
         x.poll(1);
         due.is("reason at the longest main of " + main, x.reason(), 5);
@@ -164,54 +156,15 @@ public final class SettingsTest {
         }
         Due.lead(x, 5);
         Due.set(x, false, Due.PILOT_EYE, Due.MAIN_EYE);
-        if (after > 1) {
-            x.poll(after - 1);
-        }
+        Due.pass(x, after - 1);
         due.is("state before the after-purge of " + after, x.state(), 5);
         x.poll(1);
         due.is("state at the after-purge of " + after, x.state(), 0);
     }
 
-    private static void eyes() {
-        int[] least = {1, 1, 5};
-        int[] greatest = {5, 5, 100};
-        for (int i = 0; i < 3; i++) {
-            for (int wrong : new int[] {least[i] - 1, greatest[i] + 1, -1, Integer.MIN_VALUE, Integer.MAX_VALUE}) {
-                Burnerline x = new Burnerline();
-                int[] e = {3, 3, 9};
-                e[i] = wrong;
-                due.refused("setEyes with " + wrong + " at " + i, IllegalArgumentException.class, x,
-                        () -> x.setEyes(e[0], e[1], e[2]));
-            }
-        }
-        Burnerline x = new Burnerline();
-        x.setEyes(5, 5, 100);
-        lightAndNone(x, 5, 5);
-        lightAndNone(new Burnerline(), 2, 3);
-        Burnerline y = new Burnerline();
-        y.setEyes(1, 1, 5);
-        lightAndNone(y, 1, 1);
+    private static void ticksBetweenChecks() {
         for (int check : new int[] {5, 30, 100}) {
             checks(check);
-        }
-    }
-
-    private static void lightAndNone(Burnerline x, int light, int none) {
-        for (int eye = 0; eye < 2; eye++) {
-            boolean main = eye == 1;
-            int signal = main ? Due.MAIN_EYE : Due.PILOT_EYE;
-            x.signal(signal, true);
-            for (int tick = 1; tick <= light; tick++) {
-                due.is("eye " + eye + " before tick " + tick + " of " + light, x.sees(main), false);
-                x.poll(1);
-            }
-            due.is("eye " + eye + " after " + light, x.sees(main), true);
-            x.signal(signal, false);
-            for (int tick = 1; tick <= none; tick++) {
-                due.is("eye " + eye + " before dark tick " + tick + " of " + none, x.sees(main), true);
-                x.poll(1);
-            }
-            due.is("eye " + eye + " after dark " + none, x.sees(main), false);
         }
     }
 
@@ -233,17 +186,8 @@ public final class SettingsTest {
         due.is("tick of the second check of " + check, x.tickOf(0), 5 + 2 * check);
     }
 
+    /** How soon a cold furnace could open the pilot valve tells of its volume and its air's step. */
     private static void furnace() {
-        int[] greatest = {500, 50, 50};
-        for (int i = 0; i < 3; i++) {
-            for (int wrong : new int[] {0, -1, greatest[i] + 1, Integer.MIN_VALUE, Integer.MAX_VALUE}) {
-                Burnerline x = new Burnerline();
-                int[] f = {9, 9, 9};
-                f[i] = wrong;
-                due.refused("setFurnace with " + wrong + " at " + i, IllegalArgumentException.class, x,
-                        () -> x.setFurnace(f[0], f[1], f[2]));
-            }
-        }
         Burnerline x = new Burnerline();
         toPilotIs(x, 13);
         x.setFurnace(1, 1, 1);
@@ -256,56 +200,12 @@ public final class SettingsTest {
         toPilotIs(x, 3);
         x.setFurnace(26, 50, 50);
         toPilotIs(x, 4);
-        fuelSteps();
+        x.setFurnace(500, 1, 50);
+        toPilotIs(x, 95);
     }
 
     private static void toPilotIs(Burnerline x, int ticks) {
         due.is("toPilot of a cold furnace", x.toPilot(), ticks);
-    }
-
-    private static void fuelSteps() {
-        for (int step : new int[] {1, 10, 19, 20, 21, 50}) {
-            Burnerline x = Due.quick();
-            x.setFurnace(1, 50, step);
-            Due.lead(x, 3);
-            for (int tick = 1; tick <= 4; tick++) {
-                x.poll(1);
-                due.is("fuel behind " + tick + " ticks of " + step, x.fuel(), Math.min(20, tick * step));
-            }
-        }
-    }
-
-    private static void onlyWhenOff() {
-        for (int state = 1; state <= 6; state++) {
-            Burnerline x = Due.quickIn(state);
-            due.is("led to state", x.state(), state);
-            due.refused("setTimes in " + state, IllegalStateException.class, x, () -> x.setTimes(60, 10, 5, 15));
-            due.refused("setEyes in " + state, IllegalStateException.class, x, () -> x.setEyes(2, 3, 30));
-            due.refused("setFurnace in " + state, IllegalStateException.class, x, () -> x.setFurnace(200, 20, 10));
-            due.refused("setTimes(0, ..) in " + state, IllegalArgumentException.class, x, () -> x.setTimes(0, 10, 5, 15));
-            due.refused("setTimes(.., 61) in " + state, IllegalArgumentException.class, x, () -> x.setTimes(60, 10, 5, 61));
-            due.refused("setEyes(0, ..) in " + state, IllegalArgumentException.class, x, () -> x.setEyes(0, 3, 30));
-            due.refused("setEyes(.., 4) in " + state, IllegalArgumentException.class, x, () -> x.setEyes(2, 3, 4));
-            due.refused("setFurnace(0, ..) in " + state, IllegalArgumentException.class, x, () -> x.setFurnace(0, 20, 10));
-            due.refused("setFurnace(.., 51) in " + state, IllegalArgumentException.class, x, () -> x.setFurnace(200, 20, 51));
-        }
-        offAgain();
-    }
-
-    private static void offAgain() {
-        Burnerline x = Due.quickIn(1);
-        due.refused("setFurnace in a purge", IllegalStateException.class, x, () -> x.setFurnace(500, 50, 50));
-        x.poll(2);
-        due.is("a refused volume is not kept", x.state(), 2);
-        Burnerline y = Due.quickIn(1);
-        y.signal(Due.HEAT, false);
-        y.poll(1);
-        y.setTimes(1, 1, 1, 1);
-        y.setEyes(1, 1, 5);
-        y.setFurnace(500, 50, 50);
-        y.signal(Due.HEAT, true);
-        y.poll(2);
-        due.is("settings of a furnace that is off again", y.reason(), 7);
     }
 
     /** Leads a furnace that nobody has set to the run, with an eye that takes two ticks to see. */
@@ -369,6 +269,23 @@ public final class SettingsTest {
         due.is("purged just below four volumes", x.purged(), 798);
         x.poll(1);
         due.is("state above four volumes", x.state(), 2);
+    }
+
+    /** Heat that is gone for a tick lets the purge begin anew at 100: 800 behind eight ticks. */
+    private static void firstVolumeToTheLast() {
+        Burnerline x = new Burnerline();
+        Due.lead(x, 1);
+        x.poll(6);
+        due.is("air of a purge", x.air(), 100);
+        x.signal(Due.HEAT, false);
+        x.poll(1);
+        x.signal(Due.HEAT, true);
+        x.poll(1);
+        x.poll(7);
+        due.is("state below four volumes", x.state(), 1);
+        due.is("purged below four volumes", x.purged(), 700);
+        x.poll(1);
+        due.is("state just at four volumes", x.state(), 2);
     }
 
     private static void firstCheck() {
